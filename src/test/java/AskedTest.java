@@ -12,14 +12,6 @@ public final class AskedTest {
         Due.end();
     }
 
-    private static int[] factsOf(ShapeCourt court, int object) {
-        int[] facts = new int[8];
-        for (int what = 0; what < 8; what++) {
-            facts[what] = court.ofObject(object, what);
-        }
-        return facts;
-    }
-
     private static void ofObject() {
         ShapeCourt court = new ShapeCourt();
         court.make(NONE);
@@ -27,10 +19,10 @@ public final class AskedTest {
         court.make(0);
         court.write(1, 5, 1);
         court.pair(1, 6, 5, 5, 1, false);
-        Due.row("14: the parent", factsOf(court, 0), NONE, 0, 0, 0, 1, 2, 1, 3);
-        Due.row("14: the child", factsOf(court, 1), 0, 2, 3, 0, 0, 0, 2, 6);
+        Due.row("14: the parent", Courts.objectRow(court, 0), NONE, 0, 0, 0, 1, 2, 1, 3);
+        Due.row("14: the child", Courts.objectRow(court, 1), 0, 2, 3, 0, 0, 0, 2, 6);
         court.shut(1, true);
-        Due.row("14: frozen", factsOf(court, 1), 0, 2, NONE, 1, 0, 0, 2, 9);
+        Due.row("14: frozen", Courts.objectRow(court, 1), 0, 2, NONE, 1, 0, 0, 2, 9);
         Due.noIndex(court, "14: object", () -> court.ofObject(3, 8));
         Due.noIndex(court, "14: object -1", () -> court.ofObject(-1, 0));
         Due.noArgument(court, "14: what 8", () -> court.ofObject(0, 8));
@@ -59,25 +51,11 @@ public final class AskedTest {
         Due.noArgument(court, "15: what -1", () -> court.ofField(0, 0, -1));
     }
 
-    private static int[] listOf(ShapeCourt court, int object) {
-        int[] list = new int[12];
-        int size = 0;
-        try {
-            while (size < 12) {
-                list[size] = court.listed(object, size);
-                size++;
-            }
-        } catch (IndexOutOfBoundsException e) {
-            return java.util.Arrays.copyOf(list, size);
-        }
-        return list;
-    }
-
     private static void lists() {
         ShapeCourt court = new ShapeCourt();
         court.make(NONE);
         court.make(0);
-        Due.row("16: empty", listOf(court, 1));
+        Due.row("16: empty", Courts.listRow(court, 1));
         int[] own = {7, 3, 4, 0};
         for (int name : own) {
             court.write(1, name, 1);
@@ -86,19 +64,19 @@ public final class AskedTest {
         for (int name : parents) {
             court.write(0, name, 1);
         }
-        Due.row("16: numeric ones first", listOf(court, 0), 1, 2, 11, 7, 5);
-        Due.row("16: then those of the parent", listOf(court, 1), 0, 3, 7, 4, 1, 2, 11, 5);
+        Due.row("16: numeric ones first", Courts.listRow(court, 0), 1, 2, 11, 7, 5);
+        Due.row("16: then those of the parent", Courts.listRow(court, 1), 0, 3, 7, 4, 1, 2, 11, 5);
         court.define(1, 7, 1, false, true);
-        Due.row("16: hidden, and hides the parent's", listOf(court, 1), 0, 3, 4, 1, 2, 11, 5);
+        Due.row("16: hidden, and hides the parent's", Courts.listRow(court, 1), 0, 3, 4, 1, 2, 11, 5);
         court.define(0, 2, 1, false, true);
-        Due.row("16: hidden there", listOf(court, 1), 0, 3, 4, 1, 11, 5);
+        Due.row("16: hidden there", Courts.listRow(court, 1), 0, 3, 4, 1, 11, 5);
         court.write(1, 2, 1);
-        Due.row("16: not hidden of the child", listOf(court, 1), 0, 2, 3, 4, 1, 11, 5);
+        Due.row("16: not hidden of the child", Courts.listRow(court, 1), 0, 2, 3, 4, 1, 11, 5);
         court.remove(0, 11);
         court.write(0, 11, 1);
-        Due.row("16: one that came again is the last", listOf(court, 0), 1, 7, 5, 11);
+        Due.row("16: one that came again is the last", Courts.listRow(court, 0), 1, 7, 5, 11);
         court.pair(0, 7, 1, 1, 0, false);
-        Due.row("16: a pair keeps its place", listOf(court, 0), 1, 7, 5, 11);
+        Due.row("16: a pair keeps its place", Courts.listRow(court, 0), 1, 7, 5, 11);
     }
 
     private static void listsEdges() {
@@ -108,7 +86,7 @@ public final class AskedTest {
         for (int name = 11; name >= 0; name--) {
             court.write(name % 2, name, 1);
         }
-        Due.row("16: all twelve", listOf(court, 1), 1, 3, 11, 9, 7, 5, 0, 2, 10, 8, 6, 4);
+        Due.row("16: all twelve", Courts.listRow(court, 1), 1, 3, 11, 9, 7, 5, 0, 2, 10, 8, 6, 4);
         Due.noIndex(court, "16: place 12", () -> court.listed(1, 12));
         Due.noIndex(court, "16: place 6 of the parent", () -> court.listed(0, 6));
         Due.noIndex(court, "16: place -1", () -> court.listed(1, -1));

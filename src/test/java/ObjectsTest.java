@@ -215,11 +215,11 @@ public final class ObjectsTest {
         Due.is("5: comes", court.define(0, 2, 5, false, true), true);
         court.write(0, 3, 1);
         Due.is("5: in place of its own", court.define(0, 2, 6, true, false), true);
-        Due.row("5: what it is then", fieldOf(court, 0, 2), 1, 6, 1, 0, NONE, NONE, 0);
+        Due.row("5: what it is then", Courts.fieldRow(court, 0, 2), 1, 6, 1, 0, NONE, NONE, 0);
         Due.is("5: fixed", court.define(0, 2, 6, true, false), false);
         court.pair(0, 3, 4, 5, 1, true);
         Due.is("5: in place of a pair", court.define(0, 3, 8, false, false), true);
-        Due.row("5: a plain one then", fieldOf(court, 0, 3), 1, 8, 0, 0, NONE, NONE, 1);
+        Due.row("5: a plain one then", Courts.fieldRow(court, 0, 3), 1, 8, 0, 0, NONE, NONE, 1);
         court.shut(0, false);
         Due.is("5: shut and none", court.define(0, 4, 8, false, false), false);
         Due.is("5: shut and one", court.define(0, 3, 9, false, false), true);
@@ -231,12 +231,12 @@ public final class ObjectsTest {
         ShapeCourt court = new ShapeCourt();
         court.make(NONE);
         Due.is("6: comes", court.pair(0, 2, 3, NONE, -99, true), true);
-        Due.row("6: what it is", fieldOf(court, 0, 2), 2, VOID, 0, 1, 3, NONE, 0);
+        Due.row("6: what it is", Courts.fieldRow(court, 0, 2), 2, VOID, 0, 1, 3, NONE, 0);
         court.write(0, 5, 5);
         Due.is("6: anew", court.pair(0, 2, NONE, 11, 99, false), true);
-        Due.row("6: what it is then", fieldOf(court, 0, 2), 2, VOID, 0, 0, NONE, 11, 0);
+        Due.row("6: what it is then", Courts.fieldRow(court, 0, 2), 2, VOID, 0, 0, NONE, 11, 0);
         Due.is("6: in place of a plain one", court.pair(0, 5, 0, 0, 0, false), true);
-        Due.row("6: a pair then", fieldOf(court, 0, 5), 2, VOID, 0, 0, 0, 0, 1);
+        Due.row("6: a pair then", Courts.fieldRow(court, 0, 5), 2, VOID, 0, 0, 0, 0, 1);
         court.define(0, 6, 1, true, false);
         Due.is("6: in place of a fixed one", court.pair(0, 6, 1, 1, 0, false), false);
         court.shut(0, true);
@@ -271,7 +271,7 @@ public final class ObjectsTest {
         court.write(0, 6, 3);
         Due.is("7: none of its own", court.remove(1, 4), false);
         Due.is("7: one", court.remove(0, 4), true);
-        Due.row("7: none then", fieldOf(court, 0, 4), 0, VOID, 0, 0, NONE, NONE, NONE);
+        Due.row("7: none then", Courts.fieldRow(court, 0, 4), 0, VOID, 0, 0, NONE, NONE, NONE);
         Due.is("7: read then", court.read(1, 4), VOID);
         Due.is("7: twice", court.remove(0, 4), false);
         Due.is("7: the others move up", court.ofField(0, 5, 6), 0);
@@ -343,7 +343,7 @@ public final class ObjectsTest {
         court.write(1, 1, 1);
         Due.is("9: frozen", court.shut(0, true), 2);
         Due.is("9: fixed", court.ofField(0, 1, 2), 1);
-        Due.row("9: fixed and hidden", fieldOf(court, 0, 3), 1, 3, 1, 1, NONE, NONE, 2);
+        Due.row("9: fixed and hidden", Courts.fieldRow(court, 0, 3), 1, 3, 1, 1, NONE, NONE, 2);
         Due.is("9: a pair is not", court.ofField(0, 4, 2), 0);
         Due.is("9: of the child none", court.ofField(1, 1, 2), 0);
         Due.is("9: loose by that", court.ofObject(0, 2), NONE);
@@ -372,13 +372,5 @@ public final class ObjectsTest {
         Due.is("23: itself", court.differs(1, 1), 0);
         Due.noIndex(court, "23: one", () -> court.differs(2, 0));
         Due.noIndex(court, "23: other", () -> court.differs(0, -1));
-    }
-
-    private static int[] fieldOf(ShapeCourt court, int object, int name) {
-        int[] facts = new int[7];
-        for (int what = 0; what < 7; what++) {
-            facts[what] = court.ofField(object, name, what);
-        }
-        return facts;
     }
 }

@@ -16,18 +16,6 @@ public final class PlacesTest {
         Due.end();
     }
 
-    private static int[] factsOf(ShapeCourt court, int place) {
-        int[] facts = new int[6];
-        for (int what = 0; what < 6; what++) {
-            facts[what] = court.ofPlace(place, what);
-        }
-        return facts;
-    }
-
-    private static int[] entryOf(ShapeCourt court, int place, int k) {
-        return new int[] {court.entry(place, k, 0), court.entry(place, k, 1), court.entry(place, k, 2)};
-    }
-
     private static void hitsAndMisses() {
         ShapeCourt court = new ShapeCourt();
         court.make(NONE);
@@ -36,25 +24,25 @@ public final class PlacesTest {
         court.write(0, 6, 7);
         court.write(1, 5, 1);
         court.write(2, 5, 2);
-        Due.row("12: before", factsOf(court, 3), 0, 0, 0, 0, 0, 0);
+        Due.row("12: before", Courts.placeRow(court, 3), 0, 0, 0, 0, 0, 0);
         Due.is("20: a miss would be", court.wouldCost(3, 1, 5), 5);
-        Due.row("20: nothing is changed", factsOf(court, 3), 0, 0, 0, 0, 0, 0);
+        Due.row("20: nothing is changed", Courts.placeRow(court, 3), 0, 0, 0, 0, 0, 0);
         Due.is("11: value", court.readAt(3, 1, 5), 1);
-        Due.row("12: a miss", factsOf(court, 3), 1, 0, 1, 5, 5, 0);
+        Due.row("12: a miss", Courts.placeRow(court, 3), 1, 0, 1, 5, 5, 0);
         Due.is("20: a hit would be", court.wouldCost(3, 2, 5), 1);
         Due.is("11: value of another one", court.readAt(3, 2, 5), 2);
-        Due.row("12: a hit", factsOf(court, 3), 1, 1, 1, 6, 1, 0);
+        Due.row("12: a hit", Courts.placeRow(court, 3), 1, 1, 1, 6, 1, 0);
         Due.is("11: of the parent", court.readAt(3, 2, 6), 7);
-        Due.row("12: a miss of two", factsOf(court, 3), 2, 1, 2, 12, 6, 0);
+        Due.row("12: a miss of two", Courts.placeRow(court, 3), 2, 1, 2, 12, 6, 0);
         Due.is("11: nowhere", court.readAt(3, 2, 7), VOID);
-        Due.row("12: a miss of all", factsOf(court, 3), 3, 1, 3, 18, 6, 0);
+        Due.row("12: a miss of all", Courts.placeRow(court, 3), 3, 1, 3, 18, 6, 0);
         Due.is("11: nowhere again", court.readAt(3, 1, 7), VOID);
-        Due.row("12: a hit of none", factsOf(court, 3), 3, 2, 3, 19, 1, 0);
+        Due.row("12: a hit of none", Courts.placeRow(court, 3), 3, 2, 3, 19, 1, 0);
         int shape = court.ofObject(1, 2);
-        Due.row("13: its own", entryOf(court, 3, 0), shape, 5, 0);
-        Due.row("13: of the parent", entryOf(court, 3, 1), shape, 6, 1);
-        Due.row("13: of none", entryOf(court, 3, 2), shape, 7, NONE);
-        Due.row("12: another place", factsOf(court, 2), 0, 0, 0, 0, 0, 0);
+        Due.row("13: its own", Courts.entryRow(court, 3, 0), shape, 5, 0);
+        Due.row("13: of the parent", Courts.entryRow(court, 3, 1), shape, 6, 1);
+        Due.row("13: of none", Courts.entryRow(court, 3, 2), shape, 7, NONE);
+        Due.row("12: another place", Courts.placeRow(court, 2), 0, 0, 0, 0, 0, 0);
     }
 
     private static void missesOfLooseOnes() {
@@ -65,13 +53,13 @@ public final class PlacesTest {
         court.readAt(0, 0, 5);
         court.remove(0, 6);
         court.readAt(0, 0, 5);
-        Due.row("12: a loose one misses", factsOf(court, 0), 1, 0, 2, 10, 5, 0);
+        Due.row("12: a loose one misses", Courts.placeRow(court, 0), 1, 0, 2, 10, 5, 0);
         court.readAt(1, 0, 5);
-        Due.row("12: no entry comes of it", factsOf(court, 1), 0, 0, 1, 5, 5, 0);
+        Due.row("12: no entry comes of it", Courts.placeRow(court, 1), 0, 0, 1, 5, 5, 0);
         court.settle(0);
         court.write(0, 6, 1);
         court.readAt(0, 0, 5);
-        Due.row("12: back with its shape it hits", factsOf(court, 0), 1, 1, 2, 11, 1, 0);
+        Due.row("12: back with its shape it hits", Courts.placeRow(court, 0), 1, 1, 2, 11, 1, 0);
     }
 
     private static void costsOfGetters() {
@@ -104,9 +92,9 @@ public final class PlacesTest {
         for (int name = 0; name < 4; name++) {
             court.readAt(5, 0, name);
         }
-        Due.row("12: three at most", factsOf(court, 5), 3, 0, 4, 20, 5, 0);
-        Due.row("13: the first went", entryOf(court, 5, 0), 0, 1, NONE);
-        Due.row("13: the last came last", entryOf(court, 5, 2), 0, 3, NONE);
+        Due.row("12: three at most", Courts.placeRow(court, 5), 3, 0, 4, 20, 5, 0);
+        Due.row("13: the first went", Courts.entryRow(court, 5, 0), 0, 1, NONE);
+        Due.row("13: the last came last", Courts.entryRow(court, 5, 2), 0, 3, NONE);
         court.readAt(5, 0, 1);
         court.readAt(5, 0, 4);
         Due.is("13: a hit moves none", court.entry(5, 0, 1), 2);
@@ -181,10 +169,10 @@ public final class PlacesTest {
         Due.is("21: shut or not", court.wouldDrop(1, 9), 2);
         court = family();
         court.write(1, 9, 1);
-        Due.row("12: of 0 it stays", factsOf(court, 0), 1, 0, 1, 5, 5, 0);
-        Due.row("12: of 1 it stays", factsOf(court, 1), 1, 0, 1, 6, 6, 0);
-        Due.row("12: of 2 it went", factsOf(court, 2), 0, 0, 1, 7, 7, 1);
-        Due.row("12: of 2 elsewhere, too", factsOf(court, 4), 0, 0, 1, 7, 7, 1);
+        Due.row("12: of 0 it stays", Courts.placeRow(court, 0), 1, 0, 1, 5, 5, 0);
+        Due.row("12: of 1 it stays", Courts.placeRow(court, 1), 1, 0, 1, 6, 6, 0);
+        Due.row("12: of 2 it went", Courts.placeRow(court, 2), 0, 0, 1, 7, 7, 1);
+        Due.row("12: of 2 elsewhere, too", Courts.placeRow(court, 4), 0, 0, 1, 7, 7, 1);
         Due.is("18: went", court.many(9), 2);
     }
 

@@ -16,10 +16,6 @@ public final class ShapesTest {
         Due.end();
     }
 
-    private static int shapeOf(ShapeCourt court, int object) {
-        return court.ofObject(object, 2);
-    }
-
     private static void sharesShapes() {
         ShapeCourt court = new ShapeCourt();
         for (int k = 0; k < 4; k++) {
@@ -29,10 +25,10 @@ public final class ShapesTest {
         court.write(0, 6, 1);
         court.write(1, 5, 2);
         court.write(1, 6, -1000);
-        Due.is("17: the same order", shapeOf(court, 1), shapeOf(court, 0));
+        Due.is("17: the same order", Courts.shapeOf(court, 1), Courts.shapeOf(court, 0));
         court.write(2, 6, 1);
         court.write(2, 5, 1);
-        Due.is("17: another order", shapeOf(court, 2) == shapeOf(court, 0), false);
+        Due.is("17: another order", Courts.shapeOf(court, 2) == Courts.shapeOf(court, 0), false);
         int shapes = court.many(2);
         court.define(3, 5, 1, false, true);
         Due.is("17: hidden is another one", court.many(2), shapes + 1);
@@ -44,15 +40,7 @@ public final class ShapesTest {
         Due.is("17: a pair is another one", court.many(2), shapes + 3);
         court.make(NONE);
         court.pair(6, 5, 9, NONE, 44, false);
-        Due.is("17: another getter is none", shapeOf(court, 6), shapeOf(court, 5));
-    }
-
-    private static int[] factsOf(ShapeCourt court, int shape) {
-        int[] facts = new int[7];
-        for (int what = 0; what < 7; what++) {
-            facts[what] = court.ofShape(shape, what);
-        }
-        return facts;
+        Due.is("17: another getter is none", Courts.shapeOf(court, 6), Courts.shapeOf(court, 5));
     }
 
     private static void tellsShapes() {
@@ -66,10 +54,10 @@ public final class ShapesTest {
         court.readAt(0, 1, 7);
         court.readAt(1, 1, 7);
         court.readAt(1, 1, 8);
-        Due.row("17: root of NONE", factsOf(court, 0), NONE, NONE, 0, NONE, 0, 1, 0);
-        Due.row("17: root of 0", factsOf(court, 1), NONE, 0, 0, NONE, 1, 0, 0);
-        Due.row("17: beneath that", factsOf(court, 2), 1, 0, 1, 7, 1, 1, 3);
-        Due.row("17: beneath that one", factsOf(court, 3), 2, 0, 2, 3, 0, 1, 0);
+        Due.row("17: root of NONE", Courts.shapeRow(court, 0), NONE, NONE, 0, NONE, 0, 1, 0);
+        Due.row("17: root of 0", Courts.shapeRow(court, 1), NONE, 0, 0, NONE, 1, 0, 0);
+        Due.row("17: beneath that", Courts.shapeRow(court, 2), 1, 0, 1, 7, 1, 1, 3);
+        Due.row("17: beneath that one", Courts.shapeRow(court, 3), 2, 0, 2, 3, 0, 1, 0);
         Due.is("18: shapes that none has", court.many(10), 1);
         Due.noIndex(court, "17: shape 4", () -> court.ofShape(4, 0));
         Due.noIndex(court, "17: shape first", () -> court.ofShape(-1, 9));
@@ -85,26 +73,26 @@ public final class ShapesTest {
             court.write(k, 6, 1);
         }
         court.remove(0, 6);
-        Due.is("7: loose as a field goes", shapeOf(court, 0), NONE);
+        Due.is("7: loose as a field goes", Courts.shapeOf(court, 0), NONE);
         court.define(1, 5, 1, true, false);
-        Due.is("5: loose as it is fixed", shapeOf(court, 1), NONE);
+        Due.is("5: loose as it is fixed", Courts.shapeOf(court, 1), NONE);
         court.define(2, 5, 1, false, true);
-        Due.is("5: loose as it is hidden", shapeOf(court, 2), NONE);
+        Due.is("5: loose as it is hidden", Courts.shapeOf(court, 2), NONE);
         court.pair(3, 5, 1, NONE, 0, false);
-        Due.is("6: loose as it is a pair", shapeOf(court, 3), NONE);
+        Due.is("6: loose as it is a pair", Courts.shapeOf(court, 3), NONE);
         court.adopt(4, 0);
-        Due.is("8: loose with another parent", shapeOf(court, 4), NONE);
+        Due.is("8: loose with another parent", Courts.shapeOf(court, 4), NONE);
         court.shut(5, true);
-        Due.is("9: loose as it is frozen", shapeOf(court, 5), NONE);
+        Due.is("9: loose as it is frozen", Courts.shapeOf(court, 5), NONE);
         Due.is("18: loose ones", court.many(3), 6);
         court.settle(3);
         court.define(3, 5, 1, false, false);
-        Due.is("5: loose as it is a pair no more", shapeOf(court, 3), NONE);
+        Due.is("5: loose as it is a pair no more", Courts.shapeOf(court, 3), NONE);
         court.settle(2);
         court.define(2, 5, 1, false, false);
-        Due.is("5: loose as it is hidden no more", shapeOf(court, 2), NONE);
+        Due.is("5: loose as it is hidden no more", Courts.shapeOf(court, 2), NONE);
         court.write(2, 9, 1);
-        Due.is("4: loose ones stay loose", shapeOf(court, 2), NONE);
+        Due.is("4: loose ones stay loose", Courts.shapeOf(court, 2), NONE);
     }
 
     private static void keepsShapes() {
@@ -112,14 +100,14 @@ public final class ShapesTest {
         court.make(NONE);
         court.write(0, 5, 1);
         court.pair(0, 6, 1, 2, 3, true);
-        int shape = shapeOf(court, 0);
+        int shape = Courts.shapeOf(court, 0);
         court.write(0, 5, 1000);
         court.define(0, 5, 4, false, false);
         court.pair(0, 6, 4, NONE, -3, true);
         court.remove(0, 7);
         court.adopt(0, NONE);
         court.shut(0, false);
-        Due.is("17: a value, a getter, n alone is none", shapeOf(court, 0), shape);
+        Due.is("17: a value, a getter, n alone is none", Courts.shapeOf(court, 0), shape);
     }
 
     private static void hasEightFieldsAtMost() {
@@ -128,15 +116,15 @@ public final class ShapesTest {
         for (int name = 0; name < 8; name++) {
             court.write(0, name, 1);
         }
-        Due.is("17: eight fields", court.ofShape(shapeOf(court, 0), 2), 8);
+        Due.is("17: eight fields", court.ofShape(Courts.shapeOf(court, 0), 2), 8);
         court.write(0, 8, 1);
-        Due.is("17: nine fields", shapeOf(court, 0), NONE);
+        Due.is("17: nine fields", Courts.shapeOf(court, 0), NONE);
         Due.is("17: no shape came", court.many(2), 9);
         Due.is("10: nine fields", court.settle(0), false);
         court.remove(0, 8);
         Due.is("22: back to eight", court.wouldSave(0), 16);
         Due.is("10: back to eight", court.settle(0), true);
-        Due.is("10: the same shape again", shapeOf(court, 0), 8);
+        Due.is("10: the same shape again", Courts.shapeOf(court, 0), 8);
         Due.is("18: words", court.many(8), 3 + 8 + 9 * 4);
     }
 
@@ -145,16 +133,16 @@ public final class ShapesTest {
         court.make(NONE);
         court.make(NONE);
         court.adopt(1, 0);
-        Due.is("8: a new root", shapeOf(court, 1), 1);
+        Due.is("8: a new root", Courts.shapeOf(court, 1), 1);
         Due.is("8: of the parent", court.ofShape(1, 1), 0);
         court.adopt(1, NONE);
-        Due.is("8: the root of NONE again", shapeOf(court, 1), 0);
+        Due.is("8: the root of NONE again", Courts.shapeOf(court, 1), 0);
         court.write(1, 4, 1);
         court.remove(1, 4);
         court.adopt(1, 0);
-        Due.is("8: a loose one stays loose", shapeOf(court, 1), NONE);
+        Due.is("8: a loose one stays loose", Courts.shapeOf(court, 1), NONE);
         Due.is("10: settles to the root", court.settle(1), true);
-        Due.is("10: which that is", shapeOf(court, 1), 1);
+        Due.is("10: which that is", Courts.shapeOf(court, 1), 1);
     }
 
     private static void settles() {
@@ -174,7 +162,7 @@ public final class ShapesTest {
         Due.is("22: two fields, a pair among them", court.wouldSave(1), 9 - 6 - 4);
         Due.is("10: settles", court.settle(1), true);
         Due.is("22: as it was said", words - court.many(8), -1);
-        Due.is("10: beneath the shape of 4", court.ofShape(shapeOf(court, 1), 0), 1);
+        Due.is("10: beneath the shape of 4", court.ofShape(Courts.shapeOf(court, 1), 0), 1);
         Due.is("10: no field is touched", court.ofField(1, 5, 0), 2);
         court.adopt(1, 0);
         Due.is("22: even its root is missing", court.wouldSave(1), 9 - 6 - 12);
@@ -185,57 +173,39 @@ public final class ShapesTest {
         Due.noIndex(court, "22: object -1", () -> court.wouldSave(-1));
     }
 
-    /** Lets the OBJECTS 0 to 9 have FIELDS, each in an order of its own, until there are so many SHAPES. */
-    private static void fillWithShapes(ShapeCourt court, int wanted) {
-        for (int object = 0; object < 10; object++) {
-            for (int k = 0; k < 8 && court.many(2) < wanted; k++) {
-                court.write(object, (object + k) % 12, 1);
-            }
-        }
-        Due.is("17: so many shapes", court.many(2), wanted);
-    }
-
-    private static ShapeCourt courtOf(int objects) {
-        ShapeCourt court = new ShapeCourt();
-        for (int k = 0; k < objects; k++) {
-            court.make(NONE);
-        }
-        return court;
-    }
-
     private static void endsAtEightyShapes() {
-        ShapeCourt court = courtOf(12);
-        fillWithShapes(court, 79);
+        ShapeCourt court = Courts.alone(12);
+        Courts.fillWithShapes(court, 79);
         court.define(10, 0, 1, true, false);
-        Due.is("17: the eightieth", shapeOf(court, 10), 79);
+        Due.is("17: the eightieth", Courts.shapeOf(court, 10), 79);
         court.define(11, 0, 1, false, true);
-        Due.is("17: loose as none can come", shapeOf(court, 11), NONE);
+        Due.is("17: loose as none can come", Courts.shapeOf(court, 11), NONE);
         Due.is("17: still eighty", court.many(2), 80);
         Due.is("2: an object still comes", court.make(NONE), 12);
-        Due.is("2: its root is there", shapeOf(court, 12), 0);
+        Due.is("2: its root is there", Courts.shapeOf(court, 12), 0);
         court.make(5);
-        Due.is("2: loose without its root", shapeOf(court, 13), NONE);
+        Due.is("2: loose without its root", Courts.shapeOf(court, 13), NONE);
         Due.is("10: stays loose", court.settle(13), false);
         Due.is("22: saves nothing", court.wouldSave(13), 0);
         court.adopt(12, 5);
-        Due.is("8: loose without the root", shapeOf(court, 12), NONE);
+        Due.is("8: loose without the root", Courts.shapeOf(court, 12), NONE);
         court.make(NONE);
         court.write(14, 0, 1);
-        Due.is("17: one that is there is had", shapeOf(court, 14), 1);
+        Due.is("17: one that is there is had", Courts.shapeOf(court, 14), 1);
         court.write(14, 1, 1);
-        Due.is("17: and the next", shapeOf(court, 14), 2);
+        Due.is("17: and the next", Courts.shapeOf(court, 14), 2);
         court.write(14, 0, 5);
-        Due.is("17: a value alone is none", shapeOf(court, 14), 2);
+        Due.is("17: a value alone is none", Courts.shapeOf(court, 14), 2);
     }
 
     private static void settlesAsFarAsShapesReach() {
-        ShapeCourt court = courtOf(12);
+        ShapeCourt court = Courts.alone(12);
         court.write(11, 0, 1);
         court.pair(11, 1, 2, 2, 0, true);
         court.pair(11, 2, 3, 3, 0, true);
         court.adopt(11, 10);
-        Due.is("8: loose", shapeOf(court, 11), NONE);
-        fillWithShapes(court, 78);
+        Due.is("8: loose", Courts.shapeOf(court, 11), NONE);
+        Courts.fillWithShapes(court, 78);
         int words = court.many(8);
         Due.is("22: those that come by then", court.wouldSave(11), -8);
         Due.is("10: stays loose", court.settle(11), false);
