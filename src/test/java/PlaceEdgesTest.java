@@ -333,7 +333,14 @@ public final class PlaceEdgesTest {
         court.readAt(0, 1, 5);
         Due.row("13: it comes as the last one", Courts.entryRow(court, 0, 2), 1, 5, NONE);
         Due.is("12: none was pushed out", court.ofPlace(0, 0), 3);
+        Courts.write(court, 1, 8);
+        court.readAt(0, 1, 8);
+        court.readAt(0, 1, 9);
+        Due.row("13: pushed up", Courts.entryRow(court, 0, 1), 3, 8, 0);
+        Due.row("13: the last one", Courts.entryRow(court, 0, 2), 3, 9, 1);
         court.readAt(0, 1, 6);
+        Due.row("13: pushed up again", Courts.entryRow(court, 0, 0), 3, 8, 0);
+        Due.row("13: and this one", Courts.entryRow(court, 0, 1), 3, 9, 1);
         court.readAt(0, 1, 7);
         court.write(0, 10, 9);
         Due.is("12: all three went", court.ofPlace(0, 0), 0);
@@ -366,6 +373,8 @@ public final class PlaceEdgesTest {
         court.pair(0, 0, 4, NONE, 1, false);
         court.define(0, 6, 1, true, false);
         Due.row("16: pairs and fixed ones", Courts.listRow(court, 0), 0, 2, 3, 11, 4, 6);
+        court.remove(1, 0);
+        Due.row("16: behind those of the child", Courts.listRow(court, 1), 1, 10, 5, 0, 2, 3, 11, 4, 6);
         ShapeCourt full = Courts.of(NONE, 0);
         Courts.write(full, 0, 11, 10, 9, 8, 7, 6, 5, 4, 3, 2, 1, 0);
         Courts.write(full, 1, 0, 1, 2, 3, 4, 5, 6, 7, 8, 9, 10, 11);
@@ -421,6 +430,13 @@ public final class PlaceEdgesTest {
         Due.is("18: loose", court.many(8), 9 + 12 + 6);
         court.remove(0, 5);
         Due.is("14: loose, a fixed one", court.ofObject(0, 7), 6);
+        ShapeCourt pairs = Courts.of(NONE);
+        for (int name = 0; name < 8; name++) {
+            pairs.pair(0, name, 1, 1, 0, false);
+            Due.is("14: a pair more, of name " + name, pairs.ofObject(0, 7), 3 + 2 * (name + 1));
+        }
+        pairs.pair(0, 8, 1, 1, 0, false);
+        Due.is("14: loose, nine pairs", pairs.ofObject(0, 7), 3 + 27);
         ShapeCourt empty = Courts.of(NONE);
         Courts.write(empty, 0, 4);
         empty.remove(0, 4);

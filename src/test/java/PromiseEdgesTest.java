@@ -28,6 +28,7 @@ public final class PromiseEdgesTest {
         ofPlaceBelowAndAbove();
         entryBelowAndAbove();
         ofObjectBelowAndAbove();
+        howManyHaveItAsTheirParent();
         ofFieldBelowAndAbove();
         ofFieldOfNone();
         listedBelowAndAbove();
@@ -43,6 +44,7 @@ public final class PromiseEdgesTest {
         differsOfNoneAndAll();
         digestWrapsAround();
         digestOfNothing();
+        digestOfAllThatThereIs();
         Due.end();
     }
 
@@ -360,6 +362,20 @@ public final class PromiseEdgesTest {
         }
     }
 
+    /** Promise 14: "how many OBJECTS have it as their PARENT", from none to all others. */
+    private static void howManyHaveItAsTheirParent() {
+        ShapeCourt court = Courts.alone(24);
+        for (int k = 0; k < 23; k++) {
+            Due.is("14: by then", court.ofObject(23, 5), k);
+            court.adopt(k, 23);
+        }
+        Due.is("14: all others", court.ofObject(23, 5), 23);
+        Due.is("14: none", court.ofObject(0, 5), 0);
+        court.adopt(0, 22);
+        Due.is("14: all but 0", court.ofObject(23, 5), 22);
+        Due.is("14: 0", court.ofObject(22, 5), 1);
+    }
+
     /** Promise 15: "if what is not 0 to 6". */
     private static void ofFieldBelowAndAbove() {
         ShapeCourt court = Courts.of(NONE);
@@ -615,5 +631,22 @@ public final class PromiseEdgesTest {
         ShapeCourt court = new ShapeCourt();
         Due.noIndex(court, "24: the same after a call that throws", () -> court.make(0));
         Due.is("24: twice the same", court.digest(), sum.longValue());
+    }
+
+    /** Promise 24: with all OBJECTS, SHAPES and ENTRIES that there can be, asked for one by one. */
+    private static void digestOfAllThatThereIs() {
+        ShapeCourt court = Courts.alone(24);
+        Courts.fillWithShapes(court, 80);
+        court.pair(0, 4, 5, 6, -9, true);
+        court.define(1, 2, 1023, true, false);
+        court.adopt(12, 11);
+        court.adopt(11, 0);
+        for (int place = 0; place < 6; place++) {
+            for (int object = 0; object < 6; object++) {
+                court.readAt(place, object, 11 - place);
+            }
+            Due.is("24: three entries", court.ofPlace(place, 0), 3);
+        }
+        Due.is("24: as one asks for it", court.digest(), DigestTest.madeUp(court));
     }
 }
